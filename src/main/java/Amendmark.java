@@ -20,8 +20,8 @@ public final class Amendmark {
     private static final int SECOND_LETTER = 27, NUMBER_PLACE = 1000;
 
     private final ArrayList<Instruction> instructions = new ArrayList<Instruction>();
-    private final View view = new View(instructions);
-    private final View frozen = new View(instructions);
+    private final View view = new View();
+    private final View frozen = new View();
     private Instruction next = new Instruction(new Terms(ON_DAY, 0, ALL_TERRITORIES, NONE));
     private int today = 0;
     private int acts = 0;
@@ -29,7 +29,6 @@ public final class Amendmark {
     private int provisions = 0;
 
     public Amendmark() {
-        view.build();
     }
 
     // ---- days, acts
@@ -98,7 +97,7 @@ public final class Amendmark {
         next.label = joinLabel(number, letters);
         add(ENACT, provisions);
         provisions++;
-        view.build();
+        view.build(instructions);
         return provisions - 1;
     }
 
@@ -128,7 +127,7 @@ public final class Amendmark {
             next.label = joinLabel(first, letters);
         }
         add(kind, provision);
-        view.build();
+        view.build(instructions);
         return instructions.size() - 1;
     }
 
@@ -139,7 +138,7 @@ public final class Amendmark {
             throw new IllegalStateException("it does not wait for an order");
         }
         ordered.start.give(today, day, day);
-        view.build();
+        view.build(instructions);
     }
 
     public void strike(int instruction, int day) throws IndexOutOfBoundsException, IllegalArgumentException, IllegalStateException {
@@ -149,7 +148,7 @@ public final class Amendmark {
             throw new IllegalStateException("it was struck down");
         }
         struck.voiding.give(today, day, LAST_DAY);
-        view.build();
+        view.build(instructions);
     }
 
     public void suspend(int instruction, int from, int to) throws IndexOutOfBoundsException, IllegalArgumentException, IllegalStateException {
@@ -163,7 +162,7 @@ public final class Amendmark {
             throw new IllegalStateException("it was suspended");
         }
         suspended.pause.give(today, from, to);
-        view.build();
+        view.build(instructions);
     }
 
     // ---- views
@@ -177,7 +176,7 @@ public final class Amendmark {
             throw new IllegalArgumentException("territory is out of range");
         }
         view.turnTo(day, known, territory);
-        view.build();
+        view.build(instructions);
         return view.listedCount;
     }
 
@@ -232,7 +231,7 @@ public final class Amendmark {
         }
         int frozenDay = view.beginningOf(view.sourceAt(provision, place));
         frozen.turnTo(frozenDay, view.known, view.territory);
-        frozen.build();
+        frozen.build(instructions);
         return frozen.labelOf(word - FIRST_FROZEN);
     }
 
@@ -377,7 +376,7 @@ public final class Amendmark {
         int count = 0;
 
         boolean append(int word) {
-            if (count < 0 || count >= row.length) {
+            if (count >= row.length) {
                 return false;
             }
             row[count] = word;
@@ -531,12 +530,11 @@ public final class Amendmark {
 
     /** The code on a day, by what is known on a day, in a territory. */
     private static final class View {
-        private final ArrayList<Instruction> all;
         private final ArrayList<Instruction> turns = new ArrayList<Instruction>();
         private final int[] beginnings = new int[MOST_INSTRUCTIONS];
         private final int[] states = new int[MOST_INSTRUCTIONS];
-        /** Of which AMEND an instruction has its new words; NONE if they are its own. */
-        private final int[] tellers = new int[MOST_INSTRUCTIONS];
+        /** The new words that an AMEND told of an instruction; null if it has its own. */
+        private final Phrase[] told = new Phrase[MOST_INSTRUCTIONS];
         private final int[] labels = new int[MOST_PROVISIONS];
         private final int[] outers = new int[MOST_PROVISIONS];
         private final Text[] texts = new Text[MOST_PROVISIONS];
@@ -547,11 +545,11 @@ public final class Amendmark {
         private int known = 0;
         private int territory = 0;
 
-        View(ArrayList<Instruction> all) {
-            this.all = all;
+        View() {
             for (int p = 0; p < texts.length; p++) {
                 texts[p] = new Text();
             }
+            clear();
         }
 
         void turnTo(int day, int known, int territory) {
@@ -561,7 +559,7 @@ public final class Amendmark {
         }
 
         /** Does all instructions that are in effect, from nothing. */
-        void build() {
+        void build(ArrayList<Instruction> all) {
             clear();
             for (int i = 0; i < all.size() && i < MOST_INSTRUCTIONS; i++) {
                 Instruction one = all.get(i);
@@ -582,10 +580,11 @@ public final class Amendmark {
 
         private void clear() {
             turns.clear();
+            listedCount = 0;
             for (int i = 0; i < MOST_INSTRUCTIONS; i++) {
                 beginnings[i] = NONE;
                 states[i] = IDLE;
-                tellers[i] = NONE;
+                told[i] = null;
             }
             for (int p = 0; p < MOST_PROVISIONS; p++) {
                 labels[p] = NONE;
@@ -680,11 +679,11 @@ public final class Amendmark {
         }
 
         private boolean retell(Instruction one) {
-            int told = one.subject;
-            if (told < 0 || told >= MOST_INSTRUCTIONS || states[told] != IDLE) {
+            int i = one.subject;
+            if (i < 0 || i >= MOST_INSTRUCTIONS || states[i] != IDLE) {
                 return false;
             }
-            tellers[told] = one.number;
+            told[i] = one.fresh;
             return true;
         }
 
@@ -707,8 +706,8 @@ public final class Amendmark {
 
         private Phrase freshOf(Instruction one) {
             int i = one.number;
-            int teller = i >= 0 && i < tellers.length ? tellers[i] : NONE;
-            return teller >= 0 && teller < all.size() ? all.get(teller).fresh : one.fresh;
+            Phrase fresh = i >= 0 && i < told.length ? told[i] : null;
+            return fresh != null ? fresh : one.fresh;
         }
 
         /** Whether the provision, or the top, is there, and has no other one with the label. */
@@ -737,7 +736,6 @@ public final class Amendmark {
         }
 
         private void listInOrder() {
-            listedCount = 0;
             int outer = NONE;
             int behind = NONE;
             // Each provision is gone into once and left once.
