@@ -2,12 +2,59 @@
 final class Book {
     final Amendmark law = new Amendmark();
 
+    static Book withAct() {
+        Book book = new Book();
+        book.law.act();
+        return book;
+    }
+
+    /** An act of the day 0 with one provision, 1, that has words. */
+    static Book withText(int... words) {
+        Book book = withAct();
+        book.enact(Amendmark.NONE, 1, words);
+        return book;
+    }
+
     static int[] of(int... words) {
         return words;
     }
 
     void on(int day) {
         law.terms(Amendmark.ON_DAY, day, 7, Amendmark.NONE);
+    }
+
+    void withOrder() {
+        law.terms(Amendmark.BY_ORDER, 0, 7, Amendmark.NONE);
+    }
+
+    void with(int instruction) {
+        law.terms(Amendmark.WITH, instruction, 7, Amendmark.NONE);
+    }
+
+    /** A day later, in an act of its own. */
+    void tomorrow() {
+        law.pass(1);
+        law.act();
+    }
+
+    long terms(int how, int what, int territories, int sunset) {
+        law.terms(how, what, territories, sunset);
+        return 0;
+    }
+
+    long order(int instruction, int day) {
+        law.order(instruction, day);
+        return 0;
+    }
+
+    long strike(int instruction, int day) {
+        law.strike(instruction, day);
+        return 0;
+    }
+
+    long suspend(int instruction, int from, int to) {
+        law.suspend(instruction, from, to);
+        return 0;
     }
 
     void say(int[] searched, int[] fresh) {
@@ -75,6 +122,11 @@ final class Book {
             text.append(k == 0 ? "" : " ").append(law.origin(provision, k));
         }
         return text.toString();
+    }
+
+    void comesFrom(int provision, String due) {
+        String got = origins(provision);
+        Check.holds("the origins in " + provision + " are '" + got + "', due is '" + due + "'", got.equals(due));
     }
 
     /** The provisions in the view by the order of the code. */

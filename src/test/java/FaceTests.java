@@ -99,6 +99,17 @@ final class FaceTests {
                 Modifier.isStatic(inner.getModifiers()) && !Modifier.isPublic(inner.getModifiers())
                 && !Modifier.isProtected(inner.getModifiers()));
             Check.holds(inner.getSimpleName() + " has some twenty fields", inner.getDeclaredFields().length <= 20);
+            parameters(inner);
+        }
+        parameters(Amendmark.class);
+    }
+
+    private static void parameters(Class<?> of) {
+        for (Method method : of.getDeclaredMethods()) {
+            Check.holds(method.getName() + " takes at most seven", method.getParameterCount() <= 7);
+        }
+        for (Constructor<?> constructor : of.getDeclaredConstructors()) {
+            Check.holds(of.getSimpleName() + " takes at most seven", constructor.getParameterCount() <= 7);
         }
     }
 
