@@ -2,6 +2,7 @@ import java.io.IOException;
 import java.nio.charset.StandardCharsets;
 import java.nio.file.Files;
 import java.nio.file.Path;
+import java.util.List;
 
 /** The document, and which of its words a test has taken up, so that no sentence is left without one. */
 final class Doc {
@@ -57,19 +58,31 @@ final class Doc {
         }
     }
 
-    /** What no test has quoted, from one heading up to another. */
-    static void isTakenUp(String first, String behind) {
+    /** The lines under the heading that was opened last. */
+    static List<String> lines() {
+        return TEXT.substring(from, to).lines().filter(line -> !line.isBlank()).toList();
+    }
+
+    /** The faces that the promises tell, each at the head of its own. */
+    static List<String> promised() {
+        return TEXT.lines().filter(line -> line.matches("`[^`]*\\)[^`]*`: .*"))
+            .map(line -> line.substring(1, line.indexOf('`', 1))).toList();
+    }
+
+    /** What no test has quoted, from the first line to the last one. */
+    static void isTakenUp() {
         Check.about("");
-        int at = TEXT.indexOf("# " + first + "\n");
-        int end = TEXT.indexOf("# " + behind + "\n");
-        Check.holds("both headings are in the document", at >= 0 && end > at);
-        for (int k = at; k >= 0 && k < end; k = TEXT.indexOf('\n', k) + 1) {
-            String left = leftOf(k, TEXT.indexOf('\n', k));
+        int begin = 0;
+        while (begin < TEXT.length()) {
+            int end = TEXT.indexOf('\n', begin);
+            end = end < 0 ? TEXT.length() : end;
+            String left = leftOf(begin, end);
             Check.holds("that a test takes up '" + left + "'", left.isEmpty());
+            begin = end + 1;
         }
     }
 
-    /** The words of a line that no test has quoted; headings, and the faces of the methods, need none. */
+    /** The words of a line that no test has quoted; headings need none, and the faces of the promises are held against the face. */
     private static String leftOf(int begin, int end) {
         String line = TEXT.substring(begin, end);
         if (line.startsWith("#")) {

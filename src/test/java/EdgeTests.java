@@ -4,13 +4,15 @@ final class EdgeTests {
     }
 
     public static void main(String[] args) {
+        WholeEdges.run();
         TermEdges.run();
         KindEdges.run();
         ViewEdges.run();
         RefusalEdges.run();
         CallEdges.run();
         AnswerEdges.run();
-        Doc.isTakenUp("Terms", "Not promised");
+        WholeEdges.notPromised();
+        Doc.isTakenUp();
         Check.end();
     }
 }

@@ -1,3 +1,5 @@
+import java.util.List;
+
 /** The edges that the document's Exceptions name: which one is thrown, and that a call that throws changes nothing. */
 final class RefusalEdges {
     private static final int NONE = Amendmark.NONE;
@@ -26,10 +28,7 @@ final class RefusalEdges {
         firstOfInstruct();
         changesNothing();
         constants();
-        Doc.tells("Ahead of the calls `pass`, `act`, `terms`, `word`, `enact`, `instruct`, `order`, `strike`, `suspend`"
-            + " the interface says: ---- days, acts.");
-        Doc.tells("Ahead of the calls `look`, `provisionAt`, `label`, `parent`, `words`, `wordAt`, `wordAnew`, `origin`,"
-            + " `refers`, `state`, `commences`, `conflicts`, `print` the interface says: ---- views.");
+        headings();
     }
 
     private static void noSuchOne() {
@@ -288,5 +287,17 @@ final class RefusalEdges {
         Check.same("IDLE", Amendmark.IDLE, 0);
         Check.same("DONE", Amendmark.DONE, 1);
         Check.same("FAILED", Amendmark.FAILED, 2);
+    }
+
+    private static void headings() {
+        Doc.says("Ahead of the calls `pass`, `act`, `terms`, `word`, `enact`, `instruct`, `order`, `strike`, `suspend`"
+            + " the interface says: ---- days, acts.");
+        Check.holds("these stand under it, in their order", Source.callsUnder("days, acts").equals(
+            List.of("pass", "act", "terms", "word", "enact", "instruct", "order", "strike", "suspend")));
+        Doc.says("Ahead of the calls `look`, `provisionAt`, `label`, `parent`, `words`, `wordAt`, `wordAnew`, `origin`,"
+            + " `refers`, `state`, `commences`, `conflicts`, `print` the interface says: ---- views.");
+        Check.holds("these stand under it, in their order", Source.callsUnder("views").equals(
+            List.of("look", "provisionAt", "label", "parent", "words", "wordAt", "wordAnew", "origin",
+                "refers", "state", "commences", "conflicts", "print")));
     }
 }

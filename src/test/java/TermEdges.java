@@ -11,8 +11,6 @@ final class TermEdges {
     }
 
     static void run() {
-        Doc.open("What it is");
-        anObjectServes512Calls();
         Doc.open("Terms");
         Doc.tells("Days, acts", "Labels, provisions, words");
         daysBeginAtZero();
@@ -37,34 +35,6 @@ final class TermEdges {
         plainWords();
         followingWords();
         frozenWords();
-    }
-
-    private static void anObjectServes512Calls() {
-        Doc.says("An object is used for at most 512 calls after it has been made; what later calls answer is free.");
-        Book book = Book.withAct();
-        for (int p = 0; p < 20; p++) {
-            book.enact(p % 4 == 0 ? NONE : p - 1, p + 1, 120, 100, p, 99);
-        }
-        for (int i = 20; i < 40; i++) {
-            book.insert(i - 20, Book.of(), 139);
-        }
-        // These were 1, 100 and 40 calls; what is asked now answers the same up to the last one.
-        long due = book.law.print();
-        for (int calls = 142; calls < 512; calls++) {
-            switch (calls % 4) {
-                case 0:
-                    Check.same("print, the call " + calls, book.law.print(), due);
-                    break;
-                case 1:
-                    Check.same("look, the call " + calls, book.law.look(calls, 0, calls % 3), 20);
-                    break;
-                case 2:
-                    Check.same("refers, the call " + calls, book.law.refers(19, 4), 20000);
-                    break;
-                default:
-                    Check.refuses("terms, the call " + calls, () -> book.terms(Amendmark.WITH, 39, 7, NONE), null);
-            }
-        }
     }
 
     private static void daysBeginAtZero() {
